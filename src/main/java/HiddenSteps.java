@@ -377,14 +377,15 @@ public final class HiddenSteps {
 
         /** The other one, which may be this one, times a factor of at most 1000 * 1000. */
         void setScaled(Whole other, long factor) {
-            int used = Math.min(other.size + 1, limbs.length);
+            int used = Math.min(other.size, limbs.length - 1);
             long carry = 0;
             for (int j = 0; j < used; j++) {
-                long column = other.limbAt(j) * factor + carry;
+                long column = other.limbs[j] * factor + carry;
                 limbs[j] = (int) (column % BASE);
                 carry = column / BASE;
             }
-            trimFrom(used);
+            limbs[used] = (int) carry;
+            trimFrom(used + 1);
         }
 
         /** The sum of the first n terms, each times its factor of at most 1000 * 1000; n is at most 8. */
@@ -807,7 +808,7 @@ public final class HiddenSteps {
 
         private void weighHead(int t) {
             int rank = headRanks[t];
-            if (rank < counts[t] && rank < MOST_RANKS) {
+            if (weights[t] > 0 && rank < counts[t] && rank < MOST_RANKS) {
                 heads[t].setScaled(values[entry(t, rank)], weights[t]);
             } else {
                 heads[t].setSmall(0);
@@ -849,16 +850,16 @@ public final class HiddenSteps {
     /**
      * Finds the first row of signs, the shortest first, whose chance is not the
      * same from two beginnings. A row of signs turns the difference of the two
-     * beginnings into a difference over the states; a row whose difference is a
-     * mix of those of rows before it need not be gone on with, for what comes
-     * behind it comes, not later, behind one of them. So at most as many rows
-     * are gone on with as there are states.
+     * beginnings into a difference over the states. If that is a mix of the
+     * differences of rows before it, the row need not be gone on with: where
+     * signs behind it tell, they tell behind one of those rows too. So no more
+     * rows are gone on with than there are states.
      *
-     * It counts by rests of primes, each of which finds the first row whose
-     * difference it does not divide: never one too early. Rows of r signs
-     * have differences up to 10^(6 r), which so many primes together do not
-     * divide that 9 for each of them are 6 r; hence the first row found by any
-     * of so many is the first one.
+     * Differences are counted by their rests for a prime, and each prime finds
+     * the first row whose difference it does not divide: never a row that does
+     * not tell, but perhaps not the first. The difference for a row of r signs
+     * is at most 10^(6 r), so that 2 r / 3 primes above 10^9 cannot all divide
+     * it: the first of the rows that so many primes find is the first of all.
      */
     private static final class Teller {
         private int width;
