@@ -89,6 +89,7 @@ public final class FaceTests {
 
   // ---- the room ----
 
+  /** Fields and elements, each of which takes Java four bytes or more. */
   private static final int ROOM = 7_300_000;
 
   private static long allocated() {
@@ -104,7 +105,7 @@ public final class FaceTests {
     }
   }
 
-  /** The dearest calls, again and again: the rows are made once. A byte an element is far below what Java takes. */
+  /** The dearest calls, again and again: the rows are made once. */
   private static void runsStayInTheirRoom() {
     allocated();
     long before = allocated();
