@@ -291,6 +291,9 @@ public final class PromiseTests {
         {{"904", "25", "22600"}, {"342", "40", "13680"}},
         {{"7696", "1", "7696"}, {"28584", "1", "28584"}}};
     for (int i = 0; i < 3; i++) {
+      x = new HiddenSteps();
+      weather(x);
+      signs(x, 0, 1, 2);
       for (int s = 0; s < 2; s++) {
         for (int how = 0; how < 3; how++) {
           due("12 digits", x.odds(0, i, s, how), wanted[i][s][how].length());
@@ -379,18 +382,22 @@ public final class PromiseTests {
   }
 
   private static void bestOfLikeOnes() {
-    HiddenSteps x = new HiddenSteps();
-    int even = even(x);
-    for (int i = 0; i < 60; i++) x.sign(-1);
+    String chance = java.math.BigInteger.TWO.pow(180).toString();
     for (int k = 19; k >= 0; k--) {
-      due("14 like ones", x.best(even, k), java.math.BigInteger.TWO.pow(180).toString().length());
-      wholeIs("14 like ones", x, java.math.BigInteger.TWO.pow(180).toString());
+      HiddenSteps x = new HiddenSteps();
+      int even = even(x);
+      for (int i = 0; i < 60; i++) x.sign(-1);
+      due("14 like ones", x.best(even, k), chance.length());
+      wholeIs("14 like ones", x, chance);
       int[] states = new int[60];
       states[59] = k % 8;
       states[58] = k / 8;
       statesAre("14 like ones, " + k, x, states);
     }
     // A greater chance comes before states that come first.
+    HiddenSteps x = new HiddenSteps();
+    int even = even(x);
+    for (int i = 0; i < 60; i++) x.sign(-1);
     x.begin(even, 7, 2);
     x.begin(even, 3, 0);
     x.best(even, 0);
@@ -562,6 +569,8 @@ public final class PromiseTests {
   private static void apartByAPrime() {
     apartByAPrime(new int[][] {{1000, 0}, {1, 999}, {0, 1000}});
     apartByAPrime(new int[][] {{1000, 0, 0}, {1, 500, 499}, {0, 0, 1000}});
+    apartByAPrimeAlone();
+    apartByAPrimeForEver();
   }
 
   private static void apartByAPrime(int[][] shows) {
@@ -569,6 +578,33 @@ public final class PromiseTests {
     int[] begins = {500, 1, 499};
     int a = make(x, 1000, begins, new int[][] {{4, 294, 702}, {484, 0, 516}, {0, 0, 1000}}, shows);
     int b = make(x, 1000, begins, new int[][] {{0, 0, 1000}, {0, 353, 647}, {0, 0, 1000}}, shows);
+    apartByAPrime(x, a, b);
+  }
+
+  /** The chances of each row of two signs differ by 2^31 - 1 just, those of longer rows by other numbers. */
+  private static void apartByAPrimeAlone() {
+    HiddenSteps x = new HiddenSteps();
+    int[] begins = {1, 3, 5, 991};
+    int[][] shows = {{1000, 0}, {999, 1}, {0, 1000}, {0, 1000}};
+    int a = make(x, 1000, begins, new int[][] {{280, 713, 0, 7}, {836, 0, 0, 164}, {0, 0, 430, 570}, {0, 0, 0, 1000}}, shows);
+    int b = make(x, 1000, begins, new int[][] {{0, 0, 993, 7}, {0, 451, 385, 164}, {158, 272, 0, 570}, {0, 0, 0, 1000}}, shows);
+    apartByAPrime(x, a, b);
+  }
+
+  /** As above, but all things end in state 3, so that the chances of longer rows differ by that prime's multiples only. */
+  private static void apartByAPrimeForEver() {
+    HiddenSteps x = new HiddenSteps();
+    int[] begins = {1, 3, 5, 991, 0, 0, 0};
+    int[][] shows = {{1000, 0}, {999, 1}, {0, 1000}, {0, 1000}, {1000, 0}, {999, 1}, {0, 1000}};
+    int[] end = {0, 0, 0, 1000, 0, 0, 0};
+    int a = make(x, 1000, begins, new int[][] {{0, 0, 0, 7, 280, 713, 0}, {0, 0, 0, 164, 836, 0, 0}, {0, 0, 0, 570, 0, 0, 430},
+        end, end, end, end}, shows);
+    int b = make(x, 1000, begins, new int[][] {{0, 0, 0, 7, 0, 0, 993}, {0, 0, 0, 164, 0, 451, 385}, {0, 0, 0, 570, 158, 272, 0},
+        end, end, end, end}, shows);
+    apartByAPrime(x, a, b);
+  }
+
+  private static void apartByAPrime(HiddenSteps x, int a, int b) {
     due("17 by a prime", x.same(a, b), 0);
     due("18 by a prime", x.apart(a, b), 2);
     rowIs("18 by a prime", x, 0, 0);
