@@ -1,3 +1,4 @@
+import java.lang.reflect.Field;
 import java.math.BigInteger;
 import java.util.Arrays;
 import java.util.function.IntUnaryOperator;
@@ -689,6 +690,147 @@ public final class EdgeTests {
     }
   }
 
+  private static void apartWhereAllCanBeShown() {
+    int[][] kinds = {{500, 500}, {100, 100, 100, 100, 300, 300}};
+    int[][] others = {{501, 499}, {100, 100, 100, 100, 299, 301}};
+    for (int kind = 0; kind < 2; kind++) {
+      for (int n = 2; n <= 8; n++) {
+        Check.sentence("18: 2 n - 1 signs, where each row of signs can be shown");
+        Bench x = new Bench();
+        Bench y = new Bench();
+        int[][] shows = new int[n][];
+        Arrays.fill(shows, kinds[kind]);
+        shows[n - 1] = others[kind];
+        x.make(1000, ringBegins(n), ringGoes(n, 0), shows);
+        x.make(1000, ringBegins(n), ringGoes(n, 1), shows);
+        int[] row = new int[2 * n - 1];
+        row[2 * n - 2] = 4 * kind;
+        dueApart(x, 0, 1, row);
+        Check.sentence("19: no twins, told by n - 1 signs, where each row of signs can be shown");
+        y.make(1000, ringBegins(n), ringGoes(n, 0), shows);
+        for (int s = 0; s < n; s++) y.due(Bench.text("twins", 0, 0, s), s == 0 ? 1 : 0);
+      }
+    }
+  }
+
+  private static int[] ringBegins(int n) {
+    int[] begins = new int[n];
+    begins[0] = 1000;
+    return begins;
+  }
+
+  /** Each state goes to the next one, the last one to this. */
+  private static int[][] ringGoes(int n, int first) {
+    int[][] goes = new int[n][n];
+    for (int s = 0; s < n; s++) goes[s][s < n - 1 ? s + 1 : first] = 1000;
+    return goes;
+  }
+
+  /** Both bits of a pair of states are gone on with, so that rows of one length differ in two ways; they tell at 7 signs. */
+  private static void apartByPairsOfStates() {
+    Check.sentence("18: the shortest one, where rows of one length differ in two ways");
+    int[][] shows = {{700, 300}, {200, 800}, {700, 300}, {200, 800}, {700, 300}, {200, 800}, {600, 400}, {100, 900}};
+    int[] begins = {500, 500, 0, 0, 0, 0, 0, 0};
+    Bench x = new Bench();
+    x.make(1000, begins, pairGoes(0), shows);
+    x.make(1000, begins, pairGoes(2), shows);
+    dueApart(x, 0, 1, 0, 0, 0, 0, 0, 0, 0);
+    Check.sentence("18: no row of 6 signs tells, and so none that is shorter");
+    for (int half = 0; half < 2; half++) {
+      Bench y = new Bench();
+      y.make(1000, begins, pairGoes(0), shows);
+      y.make(1000, begins, pairGoes(2), shows);
+      for (int word = 0; word < 32; word++) {
+        int[] row = {half, word >> 4 & 1, word >> 3 & 1, word >> 2 & 1, word >> 1 & 1, word & 1};
+        y.row(row).due("compare(0, 1)", 0);
+      }
+    }
+  }
+
+  /** From each pair of states to the next one, from the last pair to this. */
+  private static int[][] pairGoes(int first) {
+    int[][] goes = new int[8][8];
+    for (int s = 0; s < 8; s++) {
+      int next = s < 6 ? s / 2 * 2 + 2 : first;
+      goes[s][next] = s % 2 == 0 ? 900 : 400;
+      goes[s][next + 1] = s % 2 == 0 ? 100 : 600;
+    }
+    return goes;
+  }
+
+  /** So many of the greatest primes below 2^31: a program that counts by rests of a prime would use one of these. */
+  private static int[] greatPrimes(int n) {
+    int[] found = new int[n];
+    int candidate = Integer.MAX_VALUE;
+    for (int i = 0; i < n; candidate--) if (big(candidate).isProbablePrime(50)) found[i++] = candidate;
+    return found;
+  }
+
+  private static void apartByAGreatPrime() {
+    int[][] words = {{}, {1}, {1, 0}, {0, 1, 1}, {1, 0, 1, 0}, {0, 0, 1, 0, 1}};
+    for (int prime : greatPrimes(12)) {
+      for (int[] word : words) apartByAGreatPrime(prime, word);
+    }
+  }
+
+  /** Behind these signs, the chances of 0, 0 differ by the prime's multiple, and those of other signs by other numbers. */
+  private static void apartByAGreatPrime(int prime, int[] word) {
+    Check.sentence("18: the shortest one, though " + prime + " divides the difference of its chances");
+    int[][] ones = {{4, 294, 702}, {484, 0, 516}, {0, 0, 1000}};
+    int less = 500_000 * 4294 + 484_000 - prime;
+    int[][] others = {{0, 0, 1000}, {0, less, 1000 - less}, {0, 0, 1000}};
+    Bench x = new Bench();
+    makeBehind(x, word, ones);
+    makeBehind(x, word, others);
+    int[] row = Arrays.copyOf(word, word.length + 2);
+    dueApart(x, 0, 1, row);
+    x.ask("sum(0)");
+    BigInteger one = x.whole();
+    x.ask("sum(1)");
+    Check.due("the difference", one.subtract(x.whole()), big(prime).multiply(BigInteger.TEN.pow(6 * word.length)));
+  }
+
+  /** States that show these signs for sure, one behind the other, and behind them three that go on so. */
+  private static void makeBehind(Bench x, int[] word, int[][] lastGoes) {
+    int n = word.length + 3;
+    int[] start = {500, 1, 499};
+    int[][] lastShows = {{1000, 0}, {1, 999}, {0, 1000}};
+    int[] begins = new int[n];
+    int[][] goes = new int[n][n];
+    int[][] shows = new int[n][2];
+    if (word.length > 0) begins[0] = 1000;
+    for (int k = 0; k < word.length; k++) {
+      shows[k][word[k]] = 1000;
+      if (k < word.length - 1) goes[k][k + 1] = 1000;
+    }
+    for (int s = 0; s < 3; s++) {
+      int place = word.length + s;
+      if (word.length > 0) goes[word.length - 1][place] = start[s];
+      else begins[s] = start[s];
+      System.arraycopy(lastGoes[s], 0, goes[place], word.length, 3);
+      shows[place] = lastShows[s];
+    }
+    x.make(1000, begins, goes, shows);
+  }
+
+  /** What the comment on the class's search for such rows says of the numbers it counts by. */
+  private static void primesArePrimes() throws ReflectiveOperationException {
+    Check.sentence("17 same, 18 apart, 19 twins: exact, by primes enough");
+    Field field = HiddenSteps.class.getDeclaredField("PRIMES");
+    field.setAccessible(true);
+    int[] primes = (int[]) field.get(null);
+    BigInteger product = BigInteger.ONE;
+    for (int i = 0; i < primes.length; i++) {
+      Check.due(primes[i] + " is a prime", big(primes[i]).isProbablePrime(100), true);
+      Check.due(primes[i] + " is another one", product.mod(big(primes[i])).signum() != 0, true);
+      product = product.multiply(big(primes[i]));
+      // So many primes are asked for rows of (3 i + 3) / 2 signs: they cannot all divide a difference of their chances.
+      int signs = (3 * i + 3) / 2;
+      Check.due(i + 1 + " primes are enough", product.compareTo(BigInteger.TEN.pow(6 * signs)) > 0, true);
+    }
+    Check.due("enough for 15 signs", product.compareTo(BigInteger.TEN.pow(6 * 15)) > 0, true);
+  }
+
   private static void apartByLittle() {
     Check.sentence("17 same, 18 apart: by a chance of 1 in 1000 at each of seven steps");
     int[][] goes = new int[8][8];
@@ -772,7 +914,7 @@ public final class EdgeTests {
     Check.due("calls", x.calls(), Bench.MOST_CALLS);
   }
 
-  public static void main(String[] args) {
+  public static void main(String[] args) throws ReflectiveOperationException {
     newObject();
     chainNumbers();
     leastAndGreatestChain();
@@ -805,6 +947,10 @@ public final class EdgeTests {
     apartByOneSign();
     apartByTwoSigns();
     apartOfEachLength();
+    apartWhereAllCanBeShown();
+    apartByPairsOfStates();
+    apartByAGreatPrime();
+    primesArePrimes();
     apartByLittle();
     rowThatApartLeaves();
     twins();

@@ -1,26 +1,19 @@
 import java.lang.reflect.Constructor;
 import java.lang.reflect.Field;
+import java.lang.reflect.InvocationTargetException;
 import java.lang.reflect.Member;
 import java.lang.reflect.Method;
 import java.lang.reflect.Modifier;
-import java.nio.file.Files;
-import java.nio.file.Path;
 import java.util.Arrays;
+import java.util.Comparator;
+import java.util.List;
+import java.util.Random;
 import java.util.Set;
 import java.util.TreeSet;
-import java.util.regex.Matcher;
-import java.util.regex.Pattern;
 
-/** The public face, the rules of the language that can be read off the source, and the room that a run takes. */
+/** The public face, the room that a run takes, and that no call throws, whatever it is asked. */
 public final class FaceTests {
-  private static int wrong = 0;
-
-  private static void due(String what, Object got, Object want) {
-    if (!got.equals(want)) {
-      wrong++;
-      System.out.println(what + ": " + got + ", due is " + want);
-    }
-  }
+  private static final Class<?> FACE = HiddenSteps.class;
 
   // ---- the face ----
 
@@ -40,64 +33,67 @@ public final class FaceTests {
     return Modifier.isPrivate(m.getModifiers());
   }
 
-  private static void faceIsTheDocuments() throws Exception {
-    Class<?> type = HiddenSteps.class;
-    due("modifiers", Modifier.toString(type.getModifiers()), "public final");
+  private static void classIsTheDocuments() {
+    Check.sentence("public final class HiddenSteps");
+    Check.due("modifiers", Modifier.toString(FACE.getModifiers()), "public final");
+    Check.due("the class above it", FACE.getSuperclass(), Object.class);
+    Check.due("interfaces", FACE.getInterfaces().length, 0);
+    Check.due("package", FACE.getPackageName(), "");
+    Check.sentence("public HiddenSteps()");
+    Constructor<?>[] constructors = FACE.getDeclaredConstructors();
+    Check.due("constructors", constructors.length, 1);
+    Check.due("constructor", constructors[0].toGenericString(), "public HiddenSteps()");
+  }
+
+  private static void methodsAreTheDocuments() {
+    Check.sentence("these methods, and no other public ones");
     Set<String> open = new TreeSet<>();
-    Set<String> names = new TreeSet<>();
-    for (Method m : type.getDeclaredMethods()) {
+    for (Method m : FACE.getDeclaredMethods()) {
       if (isHidden(m)) continue;
       open.add(signature(m));
-      names.add(m.getName());
-      due("modifiers of " + m.getName(), Modifier.toString(m.getModifiers()), "public");
+      Check.due("modifiers of " + m.getName(), Modifier.toString(m.getModifiers()), "public");
+      Check.due("exceptions of " + m.getName(), m.getExceptionTypes().length, 0);
     }
-    due("methods", open, new TreeSet<>(Arrays.asList(METHODS)));
-    Constructor<?>[] constructors = type.getDeclaredConstructors();
-    due("constructors", constructors.length, 1);
-    due("constructor", Modifier.toString(constructors[0].getModifiers()) + constructors[0].getParameterCount(), "public0");
-    String[] constants = {"NONE", "EMPTY", "ROUGH", "UNFIT", "NOUGHT", "FULL"};
-    for (int i = 0; i < constants.length; i++) due(constants[i], type.getField(constants[i]).getInt(null), -1 - i);
+    Check.due("methods", open, new TreeSet<>(Arrays.asList(METHODS)));
+  }
+
+  private static void constantsAreTheDocuments() throws ReflectiveOperationException {
+    Check.sentence("NONE = -1, EMPTY = -2, ROUGH = -3, UNFIT = -4, NOUGHT = -5, FULL = -6");
+    List<String> constants = List.of("NONE", "EMPTY", "ROUGH", "UNFIT", "NOUGHT", "FULL");
+    for (int i = 0; i < constants.size(); i++) {
+      Field field = FACE.getField(constants.get(i));
+      Check.due(constants.get(i), field.getInt(null), -1 - i);
+      Check.due("kind of " + constants.get(i), field.toString(), "public static final int HiddenSteps." + constants.get(i));
+    }
+    Check.sentence("these constants, and no other public members");
     Set<String> fields = new TreeSet<>();
-    for (Field f : type.getDeclaredFields()) if (!isHidden(f)) fields.add(f.getName());
-    due("fields", fields, new TreeSet<>(Arrays.asList(constants)));
-    for (Class<?> inside : type.getDeclaredClasses()) {
-      due(inside.getName() + " is static", Modifier.isStatic(inside.getModifiers()), true);
-      due(inside.getName() + " is public", Modifier.isPublic(inside.getModifiers()), false);
-      for (Method m : inside.getDeclaredMethods()) due("name of " + m, names.contains(m.getName()), false);
+    for (Field f : FACE.getDeclaredFields()) if (!isHidden(f)) fields.add(f.getName());
+    Check.due("fields", fields, new TreeSet<>(constants));
+    for (Class<?> inside : FACE.getDeclaredClasses()) {
+      Check.due(inside.getName() + " is public", Modifier.isPublic(inside.getModifiers()), false);
     }
-    for (Method m : type.getDeclaredMethods()) if (isHidden(m)) due("name of " + m, names.contains(m.getName()), false);
-  }
-
-  // ---- the source ----
-
-  private static String withoutComments(String source) {
-    return source.replaceAll("(?s)/\\*.*?\\*/", "").replaceAll("//[^\n]*", "");
-  }
-
-  private static void sourceKeepsToTheRules() throws Exception {
-    String code = withoutComments(Files.readString(Path.of("src/main/java/HiddenSteps.java")));
-    String[] words = {"throw", "throws", "try", "catch", "synchronized", "assert", "package", "import", "protected", "double", "float",
-        "System.out", "System.nanoTime", "System.currentTimeMillis", "Random", "Thread", "BigInteger", "Object", "Exact"};
-    for (String word : words) {
-      due("the word " + word, Pattern.compile("\\b" + Pattern.quote(word) + "\\b").matcher(code).find(), false);
-    }
-    due("lambdas", code.contains("->") || code.contains("::"), false);
-    Matcher library = Pattern.compile("\\b(Math|System|Arrays|Integer|Long)\\.(\\w+)").matcher(code);
-    Set<String> allowed = Set.of("Math.min", "Math.max", "System.arraycopy");
-    while (library.find()) due(library.group() + " is allowed", allowed.contains(library.group()), true);
   }
 
   // ---- the room ----
 
-  /** Fields and elements, each of which takes Java four bytes or more. */
-  private static final int ROOM = 7_300_000;
+  /** An object or array takes Java 16 bytes or more; bytes for 600,000 of them hold fewer fields than the room has, too. */
+  private static final long ROOM_BYTES = 16L * 600_000;
 
   private static long allocated() {
     return ((com.sun.management.ThreadMXBean) java.lang.management.ManagementFactory.getThreadMXBean())
         .getThreadAllocatedBytes(Thread.currentThread().getId());
   }
 
-  private static void fillEvenly(HiddenSteps x, int c) {
+  private static long takenBy(Runnable run) {
+    allocated();
+    long before = allocated();
+    run.run();
+    return allocated() - before;
+  }
+
+  /** Eight states, five signs, everything as likely as anything else: 113 calls. */
+  private static void makeEven(HiddenSteps x) {
+    int c = x.chain(8, 5, 1000);
     for (int s = 0; s < 8; s++) {
       x.begin(c, s, 125);
       for (int t = 0; t < 8; t++) x.go(c, s, t, 125);
@@ -105,37 +101,84 @@ public final class FaceTests {
     }
   }
 
-  /** The dearest calls, again and again: the rows are made once. */
-  private static void runsStayInTheirRoom() {
-    allocated();
-    long before = allocated();
+  /** Two great chains and 60 places; then each call that counts much, 25 times: 512 calls. */
+  private static void dearestCalls() {
     HiddenSteps x = new HiddenSteps();
-    x.chain(8, 5, 1000);
-    x.chain(8, 5, 1000);
-    fillEvenly(x, 0);
-    fillEvenly(x, 1);
-    for (int i = 0; i < 50; i++) {
-      x.same(0, 1);
-      x.twins(0, 3, 4);
-      x.cut(0);
-      for (int p = 0; p < 60; p++) x.sign(p % 6 - 1);
+    makeEven(x);
+    makeEven(x);
+    for (int i = 0; i < 60; i++) x.sign(i % 6 - 1);
+    for (int i = 0; i < 25; i++) {
       x.best(0, 19);
       x.sum(0);
       x.compare(0, 1);
       x.moment(0, 30);
       x.odds(0, 30, 7, 2);
+      x.same(0, 1);
+      x.twins(0, 3, 4);
     }
-    due("one object's calls take little", allocated() - before < 500_000, true);
-    before = allocated();
-    for (int i = 0; i < 512; i++) new HiddenSteps();
-    due("many objects fit as well", allocated() - before < ROOM * 4L, true);
+    for (int i = 0; i < 51; i++) x.apart(0, 1);
   }
 
-  public static void main(String[] args) throws Exception {
-    faceIsTheDocuments();
-    sourceKeepsToTheRules();
+  private static void makeAndRemove() {
+    HiddenSteps x = new HiddenSteps();
+    for (int i = 0; i < 256; i++) {
+      x.chain(8, 6, 1000);
+      x.remove();
+    }
+  }
+
+  private static void runsStayInTheirRoom() {
+    Check.sentence("All calls of one run live in one room");
+    Check.due("the dearest calls", takenBy(FaceTests::dearestCalls) < ROOM_BYTES / 10, true);
+    Check.due("the most chains", takenBy(FaceTests::makeAndRemove) < ROOM_BYTES / 10, true);
+    Check.due("many objects", takenBy(() -> {
+      for (int i = 0; i < 200; i++) new HiddenSteps();
+    }) < ROOM_BYTES, true);
+  }
+
+  // ---- no call throws ----
+
+  private static final int[] NUMBERS = {Integer.MIN_VALUE, Integer.MIN_VALUE + 1, -(1 << 30), -1001, -61, -3, -2, -1, 0, 0, 1, 1, 2, 3, 4,
+      5, 6, 7, 8, 9, 10, 19, 20, 21, 25, 26, 59, 60, 61, 999, 1000, 1001, 1 << 26, 1 << 27, 1 << 28, 1 << 29, 1 << 30,
+      Integer.MAX_VALUE - 1, Integer.MAX_VALUE};
+
+  /** Any of the numbers, but most often a small one, for else hardly any call would be taken. */
+  private static int number(Random random) {
+    return random.nextInt(4) == 0 ? NUMBERS[random.nextInt(NUMBERS.length)] : random.nextInt(9) - 1;
+  }
+
+  private static Object[] numbers(Random random, int n) {
+    Object[] made = new Object[n];
+    for (int i = 0; i < n; i++) made[i] = number(random);
+    return made;
+  }
+
+  private static void noCallThrows() throws IllegalAccessException {
+    Method[] methods = Arrays.stream(FACE.getDeclaredMethods()).filter(m -> !isHidden(m)).toArray(Method[]::new);
+    Arrays.sort(methods, Comparator.comparing(Method::getName));
+    for (int seed = 0; seed < 60; seed++) {
+      Check.sentence("no call throws, also behind the 512th");
+      Random random = new Random(seed);
+      HiddenSteps x = new HiddenSteps();
+      for (int c = 0; c < seed % 4; c++) makeEven(x);
+      for (int i = 0; i < 5000; i++) {
+        Method m = methods[random.nextInt(methods.length)];
+        Object[] asked = numbers(random, m.getParameterCount());
+        try {
+          m.invoke(x, asked);
+        } catch (InvocationTargetException thrown) {
+          Check.due(m.getName() + Arrays.toString(asked) + " threw", thrown.getCause(), "nothing");
+        }
+      }
+    }
+  }
+
+  public static void main(String[] args) throws ReflectiveOperationException {
+    classIsTheDocuments();
+    methodsAreTheDocuments();
+    constantsAreTheDocuments();
     runsStayInTheirRoom();
-    System.out.println(wrong == 0 ? "the face, the source and the room are as due" : wrong + " things are not as due");
-    if (wrong != 0) System.exit(1);
+    noCallThrows();
+    Check.end("the face and the room are as due, and no call throws");
   }
 }

@@ -666,23 +666,14 @@ public final class ModelTests {
       if (calls > 512) throw new IllegalStateException("run " + number + " has too many calls");
     }
 
-    /** Two chains of many states that are told apart late or not at all: each state goes to few others. */
+    /** Three chains of many states that are told apart late or not at all. */
     void apartLate() {
-      int total = TOTALS[upTo(TOTALS.length - 1)];
-      int n = 5 + upTo(3);
-      Chain h = new Chain(n, 2, total);
-      h.begin[0] = total;
-      int turn = upTo(n - 1);
-      for (int s = 0; s < n; s++) {
-        h.go[s][(s + 1) % n] = total;
-        h.show[s][s == turn ? 1 : 0] = total;
-        if (random.nextInt(3) == 0) shift(h.go[s]);
-        if (random.nextInt(6) == 0) shift(h.show[s]);
-      }
-      both(0, n, 2, total);
+      Chain h = random.nextInt(3) == 0 ? pairs() : ring();
+      both(0, h.n, h.m, h.total);
       fill(0, h);
+      if (random.nextBoolean()) makeTurned(h);
       makeLike(0);
-      makeLike(0);
+      while (model.chains.size() < 3) makeLike(0);
       for (int a = 0; a < 3; a++) {
         for (int b = 0; b < 3; b++) {
           both(16, a, b);
@@ -691,8 +682,56 @@ public final class ModelTests {
         }
         both(15, a, upTo(2));
       }
-      for (int s = 0; s < n; s++) both(17, upTo(2), s, upTo(n - 1));
+      for (int s = 0; s < h.n; s++) both(17, upTo(2), s, upTo(h.n - 1));
       lookAtAll();
+    }
+
+    /** Each state goes to few others; all but one show the signs with the same chances, at times one sign for sure. */
+    Chain ring() {
+      int total = TOTALS[upTo(TOTALS.length - 1)];
+      int n = 5 + upTo(3);
+      Chain h = new Chain(n, 2 + upTo(1), total);
+      h.begin[0] = total;
+      int turn = upTo(n - 1);
+      int[] shows = split(h.m, total, random.nextBoolean() ? 0 : 3);
+      for (int s = 0; s < n; s++) {
+        h.go[s][(s + 1) % n] = total;
+        h.show[s] = shows.clone();
+        if (s == turn || random.nextInt(8) == 0) shift(h.show[s]);
+        if (random.nextInt(6) == 0) shift(h.go[s]);
+      }
+      return h;
+    }
+
+    /** States two by two, each pair before the next: so the rows of one length differ in more than one way. */
+    Chain pairs() {
+      int total = TOTALS[upTo(TOTALS.length - 1)];
+      int n = 4 + 2 * upTo(2);
+      Chain h = new Chain(n, 2, total);
+      h.begin[0] = upTo(total);
+      h.begin[1] = total - h.begin[0];
+      int[][] shows = {split(2, total, 3), split(2, total, 3)};
+      for (int s = 0; s < n; s++) {
+        int next = (s / 2 * 2 + 2) % n;
+        h.go[s][next] = upTo(total);
+        h.go[s][next + 1] = total - h.go[s][next];
+        h.show[s] = shows[s % 2].clone();
+        if (s >= n - 2) shift(h.show[s]);
+      }
+      return h;
+    }
+
+    /** As a chain that is there, but from its last states it goes on to others than the first ones. */
+    void makeTurned(Chain g) {
+      Chain h = new Chain(g.n, g.m, g.total);
+      int from = g.n - 1 - upTo(1);
+      int by = 1 + upTo(2);
+      System.arraycopy(g.begin, 0, h.begin, 0, g.n);
+      for (int s = 0; s < g.n; s++) {
+        h.show[s] = g.show[s].clone();
+        for (int t = 0; t < g.n; t++) h.go[s][(t + (s >= from ? by : 0)) % g.n] = g.go[s][t];
+      }
+      fill((int) both(0, h.n, h.m, h.total), h);
     }
 
     void whole() {
