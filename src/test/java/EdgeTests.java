@@ -813,6 +813,29 @@ public final class EdgeTests {
     x.make(1000, begins, goes, shows);
   }
 
+  /**
+   * States 0 and 1 go on to 2 and 3, these to 4, 5 and 6, and these to 7, which alone shows its signs with other chances
+   * in the second chain. The weights were searched for, so that the two greatest primes below 2^31 divide the difference
+   * of the chances of 0, 0, 0, 0: who counts by these two alone finds 0, 0, 1, 0.
+   */
+  private static void apartByTwoGreatPrimes() {
+    Check.sentence("18: the shortest one, though two primes divide the difference of its chances");
+    int[] begins = {509, 491, 0, 0, 0, 0, 0, 0};
+    int[][] goes = {{0, 0, 598, 402, 0, 0, 0, 0}, {0, 0, 215, 785, 0, 0, 0, 0}, {0, 0, 0, 0, 198, 182, 620, 0}, {0, 0, 0, 0, 677, 174, 149, 0},
+        {91, 0, 0, 0, 0, 0, 0, 909}, {640, 0, 0, 0, 0, 0, 0, 360}, {21, 0, 0, 0, 0, 0, 0, 979}, {1000, 0, 0, 0, 0, 0, 0, 0}};
+    int[][] shows = {{797, 203}, {813, 187}, {667, 333}, {980, 20}, {918, 82}, {778, 222}, {1000, 0}, {501, 499}};
+    Bench x = new Bench();
+    x.make(1000, begins, goes, shows);
+    shows[7] = new int[] {500, 500};
+    x.make(1000, begins, goes, shows);
+    dueApart(x, 0, 1, 0, 0, 0, 0);
+    x.ask("sum(0)");
+    BigInteger one = x.whole();
+    x.ask("sum(1)");
+    int[] primes = greatPrimes(2);
+    Check.due("the difference", one.subtract(x.whole()), big(116).multiply(big(primes[0])).multiply(big(primes[1])));
+  }
+
   /** What the comment on the class's search for such rows says of the numbers it counts by. */
   private static void primesArePrimes() throws ReflectiveOperationException {
     Check.sentence("17 same, 18 apart, 19 twins: exact, by primes enough");
@@ -950,6 +973,7 @@ public final class EdgeTests {
     apartWhereAllCanBeShown();
     apartByPairsOfStates();
     apartByAGreatPrime();
+    apartByTwoGreatPrimes();
     primesArePrimes();
     apartByLittle();
     rowThatApartLeaves();

@@ -1,26 +1,17 @@
 import com.sun.source.tree.ArrayAccessTree;
-import com.sun.source.tree.AssertTree;
 import com.sun.source.tree.AssignmentTree;
 import com.sun.source.tree.BinaryTree;
 import com.sun.source.tree.BlockTree;
 import com.sun.source.tree.ClassTree;
 import com.sun.source.tree.CompilationUnitTree;
 import com.sun.source.tree.CompoundAssignmentTree;
-import com.sun.source.tree.DoWhileLoopTree;
 import com.sun.source.tree.ExpressionTree;
 import com.sun.source.tree.ForLoopTree;
-import com.sun.source.tree.InstanceOfTree;
-import com.sun.source.tree.LambdaExpressionTree;
-import com.sun.source.tree.LiteralTree;
-import com.sun.source.tree.MemberReferenceTree;
 import com.sun.source.tree.MethodInvocationTree;
 import com.sun.source.tree.MethodTree;
 import com.sun.source.tree.NewArrayTree;
 import com.sun.source.tree.NewClassTree;
-import com.sun.source.tree.SynchronizedTree;
-import com.sun.source.tree.ThrowTree;
 import com.sun.source.tree.Tree;
-import com.sun.source.tree.TryTree;
 import com.sun.source.tree.TypeCastTree;
 import com.sun.source.tree.UnaryTree;
 import com.sun.source.tree.VariableTree;
@@ -61,6 +52,11 @@ public final class LanguageTests {
   private static final Set<String> LIBRARY = Set.of("java.lang.Math.min", "java.lang.Math.max", "java.lang.System.arraycopy",
       "java.lang.Object.<init>");
   private static final String NUMBERS = "int|long|short|byte|char|boolean";
+
+  /** What must not stand in the source, by the rule that says so, or may be wrong there and is not needed. */
+  private static final Map<Tree.Kind, Integer> NEVER = Map.of(Tree.Kind.LAMBDA_EXPRESSION, 2, Tree.Kind.MEMBER_REFERENCE, 2,
+      Tree.Kind.DOUBLE_LITERAL, 3, Tree.Kind.FLOAT_LITERAL, 3, Tree.Kind.THROW, 6, Tree.Kind.TRY, 6, Tree.Kind.SYNCHRONIZED, 6,
+      Tree.Kind.ASSERT, 6, Tree.Kind.INSTANCE_OF, 6, Tree.Kind.DO_WHILE_LOOP, 9);
 
   private static void rule(int number, String words, Object got, Object want) {
     Check.sentence("rule " + number);
@@ -219,45 +215,10 @@ public final class LanguageTests {
     // ---- what must not stand there ----
 
     @Override
-    public Void visitLambdaExpression(LambdaExpressionTree tree, Void none) {
-      never(2, "a lambda", tree);
-      return null;
-    }
-
-    @Override
-    public Void visitMemberReference(MemberReferenceTree tree, Void none) {
-      never(2, "a method reference", tree);
-      return null;
-    }
-
-    @Override
-    public Void visitThrow(ThrowTree tree, Void none) {
-      never(6, "throw", tree);
-      return null;
-    }
-
-    @Override
-    public Void visitTry(TryTree tree, Void none) {
-      never(6, "try", tree);
-      return null;
-    }
-
-    @Override
-    public Void visitSynchronized(SynchronizedTree tree, Void none) {
-      never(6, "synchronized", tree);
-      return null;
-    }
-
-    @Override
-    public Void visitAssert(AssertTree tree, Void none) {
-      never(6, "assert", tree);
-      return null;
-    }
-
-    @Override
-    public Void visitInstanceOf(InstanceOfTree tree, Void none) {
-      never(6, "instanceof, which nothing here needs", tree);
-      return null;
+    public Void scan(Tree tree, Void none) {
+      Integer rule = tree == null ? null : NEVER.get(tree.getKind());
+      if (rule != null) never(rule, tree.getKind().toString(), tree);
+      return super.scan(tree, none);
     }
 
     @Override
@@ -314,20 +275,8 @@ public final class LanguageTests {
       return super.visitWhileLoop(tree, none);
     }
 
-    @Override
-    public Void visitDoWhileLoop(DoWhileLoopTree tree, Void none) {
-      never(9, "a loop whose bound comes last", tree);
-      return null;
-    }
-
     private static String head(Tree tree) {
       return tree.toString().lines().findFirst().orElse("");
-    }
-
-    @Override
-    public Void visitLiteral(LiteralTree tree, Void none) {
-      rule(3, "a number with a point: " + tree, tree.getKind() == Tree.Kind.DOUBLE_LITERAL || tree.getKind() == Tree.Kind.FLOAT_LITERAL, false);
-      return super.visitLiteral(tree, none);
     }
   }
 
